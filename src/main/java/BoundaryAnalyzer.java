@@ -538,7 +538,7 @@ public final class BoundaryAnalyzer {
 
     /** The index of the exception that is this part of a row, or NONE. */
     private int exceptionAt(Row row, int from, int count) {
-        for (int i = 0; i < exceptionCount && i < EXCEPTIONS_ROOM; i++) {
+        for (int i = 0; i < exceptionCount; i++) {
             if (exceptions[i].isPartOf(row, from, count)) {
                 return i;
             }
@@ -546,7 +546,7 @@ public final class BoundaryAnalyzer {
         return NONE;
     }
 
-    /** A row of characters with a fixed room. */
+    /** A row of characters with a fixed room, which its size never passes. */
     private static final class Row {
         final char[] signs;
         int size;
@@ -557,11 +557,11 @@ public final class BoundaryAnalyzer {
 
         /** The character at an index, or 0 where there is none. */
         char at(int i) {
-            return i >= 0 && i < size && i < signs.length ? signs[i] : (char) 0;
+            return i >= 0 && i < size ? signs[i] : (char) 0;
         }
 
         void append(char sign) {
-            if (size >= 0 && size < signs.length) {
+            if (size < signs.length) {
                 signs[size] = sign;
                 size++;
             }
@@ -734,7 +734,7 @@ public final class BoundaryAnalyzer {
             return isClass(number) ? takers[number] : 0;
         }
 
-        /** Finds the length at a position, and how many characters (and perhaps the end) it takes. */
+        /** Finds the length at a position, and how many characters (and perhaps the end) are looked at. */
         void walk(Text text, int from) {
             matched = 0;
             Arrays.fill(waiting, -1);
@@ -744,7 +744,8 @@ public final class BoundaryAnalyzer {
             }
             boolean goesOn = true;
             int at = from;
-            while (goesOn && at < text.signs.size) {
+            int end = text.signs.size;
+            while (goesOn && at < end) {
                 int taking = takersOf(text.classAt(at));
                 at++;
                 int taken = open & taking;
@@ -982,7 +983,6 @@ public final class BoundaryAnalyzer {
                 return;
             }
             System.arraycopy(looks, place + n, looks, place, textLength - place - n);
-            Arrays.fill(looks, textLength - n, textLength, 0);
         }
 
         void analyseAll(Text text) {
