@@ -44,67 +44,6 @@ public final class PromiseTest {
 
     // ---- helpers
 
-    private static BoundaryAnalyzer fresh() {
-        return new BoundaryAnalyzer();
-    }
-
-    /** An analyser whose text is this one. */
-    private static BoundaryAnalyzer with(String text) {
-        return append(fresh(), text);
-    }
-
-    private static BoundaryAnalyzer append(BoundaryAnalyzer x, String text) {
-        for (char sign : text.toCharArray()) {
-            x.insert(x.value(0), sign);
-        }
-        return x;
-    }
-
-    /** Makes the pattern this one. */
-    private static BoundaryAnalyzer typed(BoundaryAnalyzer x, String pattern) {
-        x.clearPattern();
-        for (char sign : pattern.toCharArray()) {
-            x.type(sign);
-        }
-        return x;
-    }
-
-    private static BoundaryAnalyzer ruled(BoundaryAnalyzer x, int kind, int place, String pattern) {
-        int answer = typed(x, pattern).setRule(kind, place);
-        due.holds("rule " + pattern, answer == 0 || answer == 1);
-        return x;
-    }
-
-    private static BoundaryAnalyzer excepting(BoundaryAnalyzer x, String word) {
-        typed(x, word).addException();
-        return x;
-    }
-
-    private static String text(BoundaryAnalyzer x) {
-        StringBuilder all = new StringBuilder();
-        for (int i = 0; i < x.value(0); i++) {
-            all.append((char) x.charAt(i));
-        }
-        return all.toString();
-    }
-
-    /** The states of all positions, a digit each. */
-    private static String states(BoundaryAnalyzer x, int kind) {
-        StringBuilder all = new StringBuilder();
-        for (int i = 0; i <= x.value(0); i++) {
-            all.append(x.boundaryAt(kind, i));
-        }
-        return all.toString();
-    }
-
-    private static String looks(BoundaryAnalyzer x, int kind) {
-        StringBuilder all = new StringBuilder();
-        for (int i = 0; i < x.value(0); i++) {
-            all.append(i == 0 ? "" : " ").append(x.looksAt(kind, i));
-        }
-        return all.toString();
-    }
-
     private static void same(String what, String got, String want) {
         due.holds(what + " answered " + got + ", due is " + want + ", so it", got.equals(want));
     }
@@ -118,7 +57,7 @@ public final class PromiseTest {
     // ---- promise 1
 
     private static void newObject() {
-        BoundaryAnalyzer x = fresh();
+        BoundaryAnalyzer x = Make.fresh();
         for (int what = 0; what <= 4; what++) {
             due.answer("new: value(" + what + ")", x.value(what), 0);
         }
@@ -133,7 +72,7 @@ public final class PromiseTest {
         due.answer("new: undo()", x.undo(), -5);
         due.answer("new: redo()", x.redo(), -5);
         due.answer("new: removeException()", x.removeException(), -5);
-        BoundaryAnalyzer other = with("a");
+        BoundaryAnalyzer other = Make.with("a");
         due.answer("new: another object's text", x.value(0), 0);
         due.answer("new: the other object's text", other.value(0), 1);
     }
@@ -141,7 +80,7 @@ public final class PromiseTest {
     // ---- promise 2
 
     private static void setClass() {
-        BoundaryAnalyzer x = fresh();
+        BoundaryAnalyzer x = Make.fresh();
         due.answer("setClass('a', 11)", x.setClass('a', 11), 0);
         due.answer("setClass('a', 0)", x.setClass('a', 0), 11);
         due.answer("setClass('a', 0) again", x.setClass('a', 0), 0);
@@ -157,20 +96,20 @@ public final class PromiseTest {
         due.answer("setClass to the highest", x.setClass('b', HIGH), -2);
         due.answer("setClass refused changes nothing", x.classOf('b'), 0);
 
-        BoundaryAnalyzer y = with("a1b");
+        BoundaryAnalyzer y = Make.with("a1b");
         for (int kind = 0; kind < 3; kind++) {
-            ruled(y, kind, kind, "A+");
+            Make.ruled(y, kind, kind, "A+");
         }
         y.setClass('1', 0);
         for (int kind = 0; kind < 3; kind++) {
-            same("setClass analyses kind " + kind, states(y, kind), "1001");
+            same("setClass analyses kind " + kind, Make.states(y, kind), "1001");
         }
     }
 
     // ---- promise 3
 
     private static void classOf() {
-        BoundaryAnalyzer x = fresh();
+        BoundaryAnalyzer x = Make.fresh();
         String[] first = {"abcdefghijklmnopqrstuvwxyzABCDEFGHIJKLMNOPQRSTUVWXYZ", "0123456789", " ", ".", ",;:",
             "!?", "'", "-", "([", ")]\"", "^~`", "#$%&*+/<=>@\\_{|}"};
         int all = 0;
@@ -193,7 +132,7 @@ public final class PromiseTest {
     // ---- promise 4
 
     private static void type() {
-        BoundaryAnalyzer x = fresh();
+        BoundaryAnalyzer x = Make.fresh();
         char[] odd = {0, 31, 127, 255, 256, 65535, ' ', '*'};
         for (int i = 0; i < 24; i++) {
             due.answer("type, the " + i + "th", x.type(odd[i % odd.length]), i + 1);
@@ -205,9 +144,9 @@ public final class PromiseTest {
     // ---- promise 5
 
     private static void clearPattern() {
-        BoundaryAnalyzer x = fresh();
+        BoundaryAnalyzer x = Make.fresh();
         due.answer("clearPattern of nothing", x.clearPattern(), 0);
-        due.answer("clearPattern", typed(x, "A+B").clearPattern(), 3);
+        due.answer("clearPattern", Make.typed(x, "A+B").clearPattern(), 3);
         due.answer("clearPattern leaves", x.value(1), 0);
         due.answer("clearPattern again", x.clearPattern(), 0);
         due.answer("type behind it", x.type('A'), 1);
@@ -216,33 +155,33 @@ public final class PromiseTest {
     // ---- promise 6
 
     private static void setRule() {
-        BoundaryAnalyzer x = with("ab 12");
+        BoundaryAnalyzer x = Make.with("ab 12");
         due.answer("setRule, empty, no rule", x.setRule(1, 1), 0);
-        due.answer("setRule", typed(x, "A+").setRule(1, 1), 0);
+        due.answer("setRule", Make.typed(x, "A+").setRule(1, 1), 0);
         due.answer("setRule keeps the pattern", x.value(1), 2);
-        same("setRule analyses", states(x, 1), "101111");
-        same("setRule analyses its kind alone", states(x, 0), "111111");
-        due.answer("setRule in place of one", typed(x, "B+").setRule(1, 1), 1);
-        same("setRule analyses anew", states(x, 1), "111101");
-        due.answer("setRule at another place", typed(x, "A+").setRule(1, 4), 0);
-        same("setRule with two rules", states(x, 1), "101101");
-        due.answer("setRule removes", typed(x, "").setRule(1, 1), 1);
+        same("setRule analyses", Make.states(x, 1), "101111");
+        same("setRule analyses its kind alone", Make.states(x, 0), "111111");
+        due.answer("setRule in place of one", Make.typed(x, "B+").setRule(1, 1), 1);
+        same("setRule analyses anew", Make.states(x, 1), "111101");
+        due.answer("setRule at another place", Make.typed(x, "A+").setRule(1, 4), 0);
+        same("setRule with two rules", Make.states(x, 1), "101101");
+        due.answer("setRule removes", Make.typed(x, "").setRule(1, 1), 1);
         due.answer("setRule removed it", x.ruleText(1, 1, 0), -5);
-        same("setRule analyses behind a removal", states(x, 1), "101111");
+        same("setRule analyses behind a removal", Make.states(x, 1), "101111");
         due.answer("setRule removes no more", x.setRule(1, 1), 0);
         int[][] bad = {{-1, 0}, {3, 0}, {0, -1}, {0, 5}, {LOW, 0}, {HIGH, 0}, {0, LOW}, {0, HIGH}};
         for (int[] at : bad) {
-            due.answer("setRule(" + at[0] + ", " + at[1] + ")", typed(x, "A").setRule(at[0], at[1]), -2);
-            due.answer("setRule with a fault, too", typed(x, "a").setRule(at[0], at[1]), -2);
-            due.answer("setRule with nothing", typed(x, "").setRule(at[0], at[1]), -2);
+            due.answer("setRule(" + at[0] + ", " + at[1] + ")", Make.typed(x, "A").setRule(at[0], at[1]), -2);
+            due.answer("setRule with a fault, too", Make.typed(x, "a").setRule(at[0], at[1]), -2);
+            due.answer("setRule with nothing", Make.typed(x, "").setRule(at[0], at[1]), -2);
         }
-        due.answer("setRule with a fault", typed(x, "A**").setRule(1, 4), -102);
+        due.answer("setRule with a fault", Make.typed(x, "A**").setRule(1, 4), -102);
         due.answer("setRule refused keeps the rule", x.ruleText(1, 4, 1), '+');
-        same("setRule refused keeps the boundaries", states(x, 1), "101111");
+        same("setRule refused keeps the boundaries", Make.states(x, 1), "101111");
     }
 
     private static void fault(String pattern, int want) {
-        BoundaryAnalyzer x = typed(fresh(), pattern);
+        BoundaryAnalyzer x = Make.typed(Make.fresh(), pattern);
         due.answer("setRule of " + pattern, x.setRule(0, 0), want < 0 ? 0 : -100 - want);
         due.answer("ruleText of " + pattern, x.ruleText(0, 0, 0), want < 0 ? pattern.charAt(0) : -5);
     }
@@ -297,7 +236,7 @@ public final class PromiseTest {
     // ---- promise 7
 
     private static void ruleText() {
-        BoundaryAnalyzer x = ruled(fresh(), 2, 4, "(A|.)+/L");
+        BoundaryAnalyzer x = Make.ruled(Make.fresh(), 2, 4, "(A|.)+/L");
         String pattern = "(A|.)+/L";
         for (int i = 0; i < pattern.length(); i++) {
             due.answer("ruleText(2, 4, " + i + ")", x.ruleText(2, 4, i), pattern.charAt(i));
@@ -323,13 +262,13 @@ public final class PromiseTest {
     // ---- promise 8
 
     private static void length(String text, String pattern, int position, int want) {
-        BoundaryAnalyzer x = ruled(with(text), 0, 2, pattern);
+        BoundaryAnalyzer x = Make.ruled(Make.with(text), 0, 2, pattern);
         String call = pattern + " in '" + text + "' at " + position;
         due.answer(call, x.matchLength(0, 2, position), want);
     }
 
     private static void matchLength() {
-        BoundaryAnalyzer x = ruled(with("ab"), 1, 3, "A");
+        BoundaryAnalyzer x = Make.ruled(Make.with("ab"), 1, 3, "A");
         due.answer("matchLength(-1, 0, 0)", x.matchLength(-1, 0, 0), -2);
         due.answer("matchLength(3, 0, 9)", x.matchLength(3, 0, 9), -2);
         due.answer("matchLength(1, -1, 0)", x.matchLength(1, -1, 0), -2);
@@ -396,78 +335,78 @@ public final class PromiseTest {
     // ---- promise 9
 
     private static void addException() {
-        BoundaryAnalyzer x = fresh();
+        BoundaryAnalyzer x = Make.fresh();
         due.answer("addException of nothing", x.addException(), -2);
-        due.answer("addException", typed(x, "Mr").addException(), 1);
+        due.answer("addException", Make.typed(x, "Mr").addException(), 1);
         due.answer("addException keeps the pattern", x.value(1), 2);
         due.answer("addException again", x.addException(), -4);
-        due.answer("addException in other letters", typed(x, "mr").addException(), 2);
-        due.answer("addException of a beginning", typed(x, "m").addException(), 3);
-        due.answer("addException of 8", typed(x, "abcdefgh").addException(), 4);
-        due.answer("addException of 9", typed(x, "abcdefghi").addException(), -2);
-        due.answer("addException of 24", typed(x, "abcdefghijklmnopqrstuvwx").addException(), -2);
-        due.answer("addException with code 31", typed(x, "a\u001f").addException(), -2);
-        due.answer("addException with code 127", typed(x, "a\u007f").addException(), -2);
-        due.answer("addException with code 65535", typed(x, "\uffff").addException(), -2);
-        due.answer("addException with codes 32 and 126", typed(x, " ~").addException(), 5);
-        due.answer("addException of a pattern with a fault", typed(x, "**").addException(), 6);
+        due.answer("addException in other letters", Make.typed(x, "mr").addException(), 2);
+        due.answer("addException of a beginning", Make.typed(x, "m").addException(), 3);
+        due.answer("addException of 8", Make.typed(x, "abcdefgh").addException(), 4);
+        due.answer("addException of 9", Make.typed(x, "abcdefghi").addException(), -2);
+        due.answer("addException of 24", Make.typed(x, "abcdefghijklmnopqrstuvwx").addException(), -2);
+        due.answer("addException with code 31", Make.typed(x, "a\u001f").addException(), -2);
+        due.answer("addException with code 127", Make.typed(x, "a\u007f").addException(), -2);
+        due.answer("addException with code 65535", Make.typed(x, "\uffff").addException(), -2);
+        due.answer("addException with codes 32 and 126", Make.typed(x, " ~").addException(), 5);
+        due.answer("addException of a pattern with a fault", Make.typed(x, "**").addException(), 6);
         for (int i = 7; i <= 10; i++) {
-            due.answer("addException, the " + i + "th", typed(x, "w" + (char) ('a' + i)).addException(), i);
+            due.answer("addException, the " + i + "th", Make.typed(x, "w" + (char) ('a' + i)).addException(), i);
         }
-        due.answer("addException, full", typed(x, "more").addException(), -3);
-        due.answer("addException, there already, and full", typed(x, "mr").addException(), -4);
-        due.answer("addException, bad, and full", typed(x, "").addException(), -2);
+        due.answer("addException, full", Make.typed(x, "more").addException(), -3);
+        due.answer("addException, there already, and full", Make.typed(x, "mr").addException(), -4);
+        due.answer("addException, bad, and full", Make.typed(x, "").addException(), -2);
         due.answer("addException refused changes nothing", x.value(2), 10);
 
-        BoundaryAnalyzer y = with("a.b");
+        BoundaryAnalyzer y = Make.with("a.b");
         int before = y.work(2);
-        excepting(y, "a");
+        Make.excepting(y, "a");
         due.answer("addException does not analyse", y.work(2), before);
-        same("addException suppresses", states(y, 2), "1121");
+        same("addException suppresses", Make.states(y, 2), "1121");
     }
 
     // ---- promise 10
 
     private static void removeException() {
-        BoundaryAnalyzer x = fresh();
+        BoundaryAnalyzer x = Make.fresh();
         due.answer("removeException of nothing", x.removeException(), -5);
-        due.answer("removeException of none", typed(x, "a").removeException(), -5);
-        excepting(excepting(excepting(x, "a"), "b"), "c");
-        due.answer("removeException", typed(x, "a").removeException(), 2);
+        due.answer("removeException of none", Make.typed(x, "a").removeException(), -5);
+        Make.excepting(Make.excepting(Make.excepting(x, "a"), "b"), "c");
+        due.answer("removeException", Make.typed(x, "a").removeException(), 2);
         due.answer("removeException keeps the pattern", x.value(1), 1);
         due.answer("removeException again", x.removeException(), -5);
-        due.answer("removeException of a longer one", typed(x, "bb").removeException(), -5);
-        due.answer("removeException of the empty pattern", typed(x, "").removeException(), -5);
-        due.answer("removeException of a long one", typed(x, "abcdefghi").removeException(), -5);
-        due.answer("removeException of the last", typed(x, "c").removeException(), 1);
-        due.answer("the other one is there", typed(x, "b").addException(), -4);
+        due.answer("removeException of a longer one", Make.typed(x, "bb").removeException(), -5);
+        due.answer("removeException of the empty pattern", Make.typed(x, "").removeException(), -5);
+        due.answer("removeException of a long one", Make.typed(x, "abcdefghi").removeException(), -5);
+        due.answer("removeException of the last", Make.typed(x, "c").removeException(), 1);
+        due.answer("the other one is there", Make.typed(x, "b").addException(), -4);
         due.answer("removeException of the only one", x.removeException(), 0);
         due.answer("a removed one can be added", x.addException(), 1);
 
-        BoundaryAnalyzer y = excepting(with("a.b"), "a");
+        BoundaryAnalyzer y = Make.excepting(Make.with("a.b"), "a");
         int before = y.work(2);
         y.removeException();
         due.answer("removeException does not analyse", y.work(2), before);
-        same("removeException ends the suppression", states(y, 2), "1111");
+        same("removeException ends the suppression", Make.states(y, 2), "1111");
 
-        BoundaryAnalyzer z = fresh();
+        BoundaryAnalyzer z = Make.fresh();
         for (char word = 'a'; word < 'k'; word++) {
-            excepting(z, String.valueOf(word));
+            Make.excepting(z, String.valueOf(word));
         }
-        due.answer("removeException of ten", typed(z, "a").removeException(), 9);
-        due.answer("the tenth is there", typed(z, "j").addException(), -4);
-        due.answer("there is room again", typed(z, "k").addException(), 10);
+        due.answer("removeException of ten", Make.typed(z, "a").removeException(), 9);
+        due.answer("the tenth is there", Make.typed(z, "j").addException(), -4);
+        due.answer("there is room again", Make.typed(z, "k").addException(), 10);
     }
 
     // ---- promise 11
 
     private static void insert() {
-        BoundaryAnalyzer x = fresh();
+        BoundaryAnalyzer x = Make.fresh();
         due.answer("insert(0)", x.insert(0, 'b'), 1);
         due.answer("insert(0) before", x.insert(0, 'a'), 2);
         due.answer("insert(2) behind", x.insert(2, 'd'), 3);
         due.answer("insert(2) between", x.insert(2, 'c'), 4);
-        same("insert", text(x), "abcd");
+        same("insert", Make.text(x), "abcd");
         due.answer("insert(-1)", x.insert(-1, 'x'), -1);
         due.answer("insert(5)", x.insert(5, 'x'), -1);
         due.answer("insert(lowest)", x.insert(LOW, 'x'), -1);
@@ -478,7 +417,7 @@ public final class PromiseTest {
         due.answer("insert of 65535", x.insert(0, (char) 65535), -2);
         due.answer("insert of 32", x.insert(4, (char) 32), 5);
         due.answer("insert of 126", x.insert(5, (char) 126), 6);
-        same("insert refused changes nothing", text(x), "abcd ~");
+        same("insert refused changes nothing", Make.text(x), "abcd ~");
         for (int i = 7; i <= 100; i++) {
             due.answer("insert of the " + i + "th", x.insert(3, 'y'), i);
         }
@@ -493,9 +432,9 @@ public final class PromiseTest {
     // ---- promise 12
 
     private static void erase() {
-        BoundaryAnalyzer x = with("abcdef");
+        BoundaryAnalyzer x = Make.with("abcdef");
         due.answer("erase(1, 2)", x.erase(1, 2), 4);
-        same("erase", text(x), "adef");
+        same("erase", Make.text(x), "adef");
         due.answer("erase(3, 1)", x.erase(3, 1), 3);
         due.answer("erase(-1, 1)", x.erase(-1, 1), -1);
         due.answer("erase(3, 1)", x.erase(3, 1), -1);
@@ -508,7 +447,7 @@ public final class PromiseTest {
         due.answer("erase(2, 2)", x.erase(2, 2), -2);
         due.answer("erase(2, highest)", x.erase(2, HIGH), -2);
         due.answer("erase(2, lowest)", x.erase(2, LOW), -2);
-        same("erase refused changes nothing", text(x), "ade");
+        same("erase refused changes nothing", Make.text(x), "ade");
         due.answer("erase refused: the history", x.value(3), 8);
         due.answer("erase(0, 3)", x.erase(0, 3), 0);
         due.answer("erase of nothing", x.erase(0, 1), -1);
@@ -519,24 +458,24 @@ public final class PromiseTest {
     // ---- promise 13
 
     private static void undo() {
-        BoundaryAnalyzer x = with("abcd");
+        BoundaryAnalyzer x = Make.with("abcd");
         x.erase(1, 2);
         due.answer("undo() of an erasure", x.undo(), 4);
-        same("undo() of an erasure", text(x), "abcd");
+        same("undo() of an erasure", Make.text(x), "abcd");
         due.answer("undo() of an insertion", x.undo(), 3);
-        same("undo() of an insertion", text(x), "abc");
+        same("undo() of an insertion", Make.text(x), "abc");
         due.answer("undo(): to be redone", x.value(4), 2);
         due.answer("undo() again", x.undo(), 2);
         due.answer("undo() and again", x.undo(), 1);
         due.answer("undo() of the first one", x.undo(), 0);
-        same("undo() of all", text(x), "");
+        same("undo() of all", Make.text(x), "");
         due.answer("undo() of none", x.undo(), -5);
         due.answer("undo() of none changes nothing", x.value(4), 5);
         x.insert(0, 'z');
         due.answer("insert() ends what can be redone", x.value(4), 0);
         due.answer("insert() ends redo()", x.redo(), -5);
 
-        BoundaryAnalyzer y = with("ab");
+        BoundaryAnalyzer y = Make.with("ab");
         y.undo();
         y.insert(9, 'x');
         y.erase(0, 9);
@@ -544,19 +483,19 @@ public final class PromiseTest {
         y.erase(0, 1);
         due.answer("erase() ends what can be redone", y.value(4), 0);
 
-        BoundaryAnalyzer z = with("a");
+        BoundaryAnalyzer z = Make.with("a");
         z.insert(0, 'b');
         z.undo();
         z.setClass('a', 5);
-        ruled(z, 0, 0, "F");
-        excepting(z, "x");
+        Make.ruled(z, 0, 0, "F");
+        Make.excepting(z, "x");
         due.answer("classes, rules and exceptions do not end it", z.value(4), 1);
         due.answer("redo() behind them", z.redo(), 0);
         due.answer("undo() leaves classes", z.classOf('a'), 5);
     }
 
     private static void undoHistory() {
-        BoundaryAnalyzer x = fresh();
+        BoundaryAnalyzer x = Make.fresh();
         for (int i = 0; i < 30; i++) {
             x.insert(i, (char) ('A' + i));
         }
@@ -569,7 +508,7 @@ public final class PromiseTest {
             due.answer("undo() of 30", x.undo(), i);
         }
         due.answer("undo() of a dropped one", x.undo(), -5);
-        same("undo() of 30", text(x), "AB");
+        same("undo() of 30", Make.text(x), "AB");
         for (int i = 29; i >= 0; i--) {
             due.answer("redo() of 30", x.redo(), i);
         }
@@ -585,9 +524,9 @@ public final class PromiseTest {
         while (x.value(3) > 0) {
             x.undo();
         }
-        same("all undone but the dropped ones", text(x), "ABC");
+        same("all undone but the dropped ones", Make.text(x), "ABC");
 
-        BoundaryAnalyzer full = with("x".repeat(100));
+        BoundaryAnalyzer full = Make.with("x".repeat(100));
         full.erase(0, 100);
         due.answer("undo() of the whole text", full.undo(), 29);
         due.answer("undo() of the whole text: its length", full.value(0), 100);
@@ -598,27 +537,27 @@ public final class PromiseTest {
     // ---- promise 14
 
     private static void redo() {
-        BoundaryAnalyzer x = with("abc");
+        BoundaryAnalyzer x = Make.with("abc");
         due.answer("redo() of none", x.redo(), -5);
         x.erase(0, 2);
         x.undo();
         x.undo();
         due.answer("redo() of an insertion", x.redo(), 1);
-        same("redo() of an insertion", text(x), "abc");
+        same("redo() of an insertion", Make.text(x), "abc");
         due.answer("redo(): to be undone", x.value(3), 3);
         due.answer("redo() of an erasure", x.redo(), 0);
-        same("redo() of an erasure", text(x), "c");
+        same("redo() of an erasure", Make.text(x), "c");
         due.answer("redo() of no more", x.redo(), -5);
         due.answer("redo() can be undone", x.undo(), 3);
-        same("redo() undone", text(x), "abc");
+        same("redo() undone", Make.text(x), "abc");
         due.answer("and redone", x.redo(), 0);
-        same("and redone", text(x), "c");
+        same("and redone", Make.text(x), "c");
     }
 
     // ---- promise 15
 
     private static void charAt() {
-        BoundaryAnalyzer x = with("a ~");
+        BoundaryAnalyzer x = Make.with("a ~");
         due.answer("charAt(0)", x.charAt(0), 'a');
         due.answer("charAt(1)", x.charAt(1), 32);
         due.answer("charAt(2)", x.charAt(2), 126);
@@ -634,8 +573,8 @@ public final class PromiseTest {
     // ---- promise 16
 
     private static void value() {
-        BoundaryAnalyzer x = excepting(with("abcde"), "aa");
-        excepting(x, "bbb");
+        BoundaryAnalyzer x = Make.excepting(Make.with("abcde"), "aa");
+        Make.excepting(x, "bbb");
         x.undo();
         x.undo();
         due.answer("value(0)", x.value(0), 3);
@@ -652,9 +591,9 @@ public final class PromiseTest {
     // ---- promise 17
 
     private static void boundaryAt() {
-        BoundaryAnalyzer x = ruled(with("ab cd"), 1, 0, "A+");
-        same("boundaryAt by a rule", states(x, 1), "101101");
-        same("boundaryAt without rules", states(x, 0), "111111");
+        BoundaryAnalyzer x = Make.ruled(Make.with("ab cd"), 1, 0, "A+");
+        same("boundaryAt by a rule", Make.states(x, 1), "101101");
+        same("boundaryAt without rules", Make.states(x, 0), "111111");
         due.answer("boundaryAt(-1, 0)", x.boundaryAt(-1, 0), -2);
         due.answer("boundaryAt(3, 0)", x.boundaryAt(3, 0), -2);
         due.answer("boundaryAt(3, 99)", x.boundaryAt(3, 99), -2);
@@ -662,14 +601,14 @@ public final class PromiseTest {
         due.answer("boundaryAt(0, 6)", x.boundaryAt(0, 6), -1);
         due.answer("boundaryAt(0, lowest)", x.boundaryAt(0, LOW), -1);
         due.answer("boundaryAt(0, highest)", x.boundaryAt(0, HIGH), -1);
-        ruled(x, 1, 1, "AAC");
-        same("the longest rule makes the segment", states(x, 1), "100101");
-        ruled(x, 1, 2, "A.*/.");
-        same("a look-ahead is no part of it", states(x, 1), "100011");
+        Make.ruled(x, 1, 1, "AAC");
+        same("the longest rule makes the segment", Make.states(x, 1), "100101");
+        Make.ruled(x, 1, 2, "A.*/.");
+        same("a look-ahead is no part of it", Make.states(x, 1), "100011");
     }
 
     private static void suppressed(String text, String word, String want) {
-        same("exception " + word + " in '" + text + "'", states(excepting(with(text), word), 2), want);
+        same("exception " + word + " in '" + text + "'", Make.states(Make.excepting(Make.with(text), word), 2), want);
     }
 
     private static void suppression() {
@@ -694,44 +633,44 @@ public final class PromiseTest {
         suppressed("a.b. N", "b", "1111221");
         suppressed("a.b. N", "a", "1121111");
 
-        BoundaryAnalyzer x = excepting(with("Dr. No"), "Dr");
-        same("kind 0 is not suppressed", states(x, 0), "1111111");
-        same("kind 1 is not suppressed", states(x, 1), "1111111");
-        ruled(x, 2, 0, "A+D");
-        same("what is no raw boundary is not suppressed", states(x, 2), "1002211");
-        excepting(x, "No");
-        append(x, ".1");
-        same("two exceptions", states(x, 2), "100220021");
+        BoundaryAnalyzer x = Make.excepting(Make.with("Dr. No"), "Dr");
+        same("kind 0 is not suppressed", Make.states(x, 0), "1111111");
+        same("kind 1 is not suppressed", Make.states(x, 1), "1111111");
+        Make.ruled(x, 2, 0, "A+D");
+        same("what is no raw boundary is not suppressed", Make.states(x, 2), "1002211");
+        Make.excepting(x, "No");
+        Make.append(x, ".1");
+        same("two exceptions", Make.states(x, 2), "100220021");
     }
 
     private static void suppressionByOtherClasses() {
-        BoundaryAnalyzer x = excepting(with("ab1..x"), "ab");
+        BoundaryAnalyzer x = Make.excepting(Make.with("ab1..x"), "ab");
         x.setClass('1', 0);
-        excepting(x, "ab1");
-        same("a digit of class A is in a word", states(x, 2), "1111211");
+        Make.excepting(x, "ab1");
+        same("a digit of class A is in a word", Make.states(x, 2), "1111211");
         x.setClass('.', 2);
-        same("a '.' of class C goes on", states(x, 2), "1111221");
+        same("a '.' of class C goes on", Make.states(x, 2), "1111221");
         x.setClass('b', 1);
-        same("a word is of class A", states(x, 2), "1111111");
+        same("a word is of class A", Make.states(x, 2), "1111111");
         x.setClass('b', 0);
         x.setClass('.', 0);
-        same("a '.' of class A", states(x, 2), "1111211");
-        excepting(x, "ab1.");
-        same("a '.' of class A in a word", states(x, 2), "1111221");
-        BoundaryAnalyzer y = excepting(with("a._b"), "a");
-        same("a '_' is not of class C", states(y, 2), "11211");
+        same("a '.' of class A", Make.states(x, 2), "1111211");
+        Make.excepting(x, "ab1.");
+        same("a '.' of class A in a word", Make.states(x, 2), "1111221");
+        BoundaryAnalyzer y = Make.excepting(Make.with("a._b"), "a");
+        same("a '_' is not of class C", Make.states(y, 2), "11211");
         y.setClass('_', 2);
-        same("a '_' of class C", states(y, 2), "11221");
+        same("a '_' of class C", Make.states(y, 2), "11221");
         y.setClass('_', 0);
         y.setClass('b', 3);
-        same("a 'b' of class D is no '.'", states(append(y, "c"), 2), "112111");
+        same("a 'b' of class D is no '.'", Make.states(Make.append(y, "c"), 2), "112111");
     }
 
     // ---- promise 18
 
     private static void next() {
-        BoundaryAnalyzer x = ruled(excepting(with("Dr. No ok"), "Dr"), 2, 0, "A+D?C*");
-        same("the states", states(x, 2), "1000200101");
+        BoundaryAnalyzer x = Make.ruled(Make.excepting(Make.with("Dr. No ok"), "Dr"), 2, 0, "A+D?C*");
+        same("the states", Make.states(x, 2), "1000200101");
         due.answer("next(2, 0)", x.next(2, 0), 7);
         due.answer("next(2, 4)", x.next(2, 4), 7);
         due.answer("next(2, 7)", x.next(2, 7), 9);
@@ -744,13 +683,13 @@ public final class PromiseTest {
         due.answer("next(2, lowest)", x.next(2, LOW), -1);
         due.answer("next(3, -1)", x.next(3, -1), -2);
         due.answer("next(-1, 0)", x.next(-1, 0), -2);
-        due.answer("next of the empty text", fresh().next(2, 0), -5);
+        due.answer("next of the empty text", Make.fresh().next(2, 0), -5);
     }
 
     // ---- promise 19
 
     private static void previous() {
-        BoundaryAnalyzer x = ruled(excepting(with("Dr. No ok"), "Dr"), 2, 0, "A+D?C*");
+        BoundaryAnalyzer x = Make.ruled(Make.excepting(Make.with("Dr. No ok"), "Dr"), 2, 0, "A+D?C*");
         due.answer("previous(2, 9)", x.previous(2, 9), 7);
         due.answer("previous(2, 8)", x.previous(2, 8), 7);
         due.answer("previous(2, 7)", x.previous(2, 7), 0);
@@ -763,26 +702,26 @@ public final class PromiseTest {
         due.answer("previous(2, lowest)", x.previous(2, LOW), -1);
         due.answer("previous(3, -1)", x.previous(3, -1), -2);
         due.answer("previous(-1, 0)", x.previous(-1, 0), -2);
-        due.answer("previous of the empty text", fresh().previous(2, 0), -5);
+        due.answer("previous of the empty text", Make.fresh().previous(2, 0), -5);
     }
 
     // ---- promise 20
 
     private static void segmentCount() {
-        BoundaryAnalyzer x = ruled(excepting(with("Dr. No ok"), "Dr"), 2, 0, "A+D?C*");
+        BoundaryAnalyzer x = Make.ruled(Make.excepting(Make.with("Dr. No ok"), "Dr"), 2, 0, "A+D?C*");
         due.answer("segmentCount(2)", x.segmentCount(2), 2);
         due.answer("segmentCount(1)", x.segmentCount(1), 9);
         due.answer("segmentCount(3)", x.segmentCount(3), -2);
         due.answer("segmentCount(-1)", x.segmentCount(-1), -2);
         due.answer("segmentCount(highest)", x.segmentCount(HIGH), -2);
-        due.answer("segmentCount of the empty text", fresh().segmentCount(1), 0);
-        due.answer("segmentCount of a full text", with("x".repeat(100)).segmentCount(1), 100);
+        due.answer("segmentCount of the empty text", Make.fresh().segmentCount(1), 0);
+        due.answer("segmentCount of a full text", Make.with("x".repeat(100)).segmentCount(1), 100);
     }
 
     // ---- promise 21
 
     private static void segment() {
-        BoundaryAnalyzer x = ruled(excepting(with("Dr. No ok"), "Dr"), 2, 0, "A+D?C*");
+        BoundaryAnalyzer x = Make.ruled(Make.excepting(Make.with("Dr. No ok"), "Dr"), 2, 0, "A+D?C*");
         due.answer("segment(2, 0)", x.segment(2, 0), 0);
         due.answer("segment(2, 1)", x.segment(2, 1), 7);
         due.answer("segment(2, 2)", x.segment(2, 2), -5);
@@ -793,28 +732,28 @@ public final class PromiseTest {
         due.answer("segment(1, 9)", x.segment(1, 9), -5);
         due.answer("segment(3, 0)", x.segment(3, 0), -2);
         due.answer("segment(-1, 0)", x.segment(-1, 0), -2);
-        due.answer("segment of the empty text", fresh().segment(0, 0), -5);
+        due.answer("segment of the empty text", Make.fresh().segment(0, 0), -5);
     }
 
     // ---- promise 22
 
     private static void longest() {
-        BoundaryAnalyzer x = ruled(with("a bb cc d"), 1, 0, "A+");
+        BoundaryAnalyzer x = Make.ruled(Make.with("a bb cc d"), 1, 0, "A+");
         due.answer("longest(1), the first of two", x.longest(1), 2);
         due.answer("longest(0)", x.longest(0), 0);
-        append(x, "dd");
+        Make.append(x, "dd");
         due.answer("longest(1), the last", x.longest(1), 8);
         due.answer("longest(3)", x.longest(3), -2);
         due.answer("longest(-1)", x.longest(-1), -2);
-        due.answer("longest of the empty text", fresh().longest(0), -5);
-        BoundaryAnalyzer y = ruled(excepting(with("aaa b. ccc"), "b"), 2, 0, "A+D?");
+        due.answer("longest of the empty text", Make.fresh().longest(0), -5);
+        BoundaryAnalyzer y = Make.ruled(Make.excepting(Make.with("aaa b. ccc"), "b"), 2, 0, "A+D?");
         due.answer("longest(2), joined by an exception", y.longest(2), 4);
     }
 
     // ---- promise 23
 
     private static void segmentsWith() {
-        BoundaryAnalyzer x = ruled(with("a1 b2b2 3!"), 1, 0, "(A|B)+");
+        BoundaryAnalyzer x = Make.ruled(Make.with("a1 b2b2 3!"), 1, 0, "(A|B)+");
         due.answer("segmentsWith(1, 0)", x.segmentsWith(1, 0), 2);
         due.answer("segmentsWith(1, 1)", x.segmentsWith(1, 1), 3);
         due.answer("segmentsWith(1, 2)", x.segmentsWith(1, 2), 2);
@@ -826,8 +765,8 @@ public final class PromiseTest {
         due.answer("segmentsWith(3, 0)", x.segmentsWith(3, 0), -2);
         due.answer("segmentsWith(-1, 0)", x.segmentsWith(-1, 0), -2);
         due.answer("segmentsWith(0, highest)", x.segmentsWith(0, HIGH), -2);
-        due.answer("segmentsWith of the empty text", fresh().segmentsWith(0, 0), 0);
-        BoundaryAnalyzer y = excepting(with("a. b"), "a");
+        due.answer("segmentsWith of the empty text", Make.fresh().segmentsWith(0, 0), 0);
+        BoundaryAnalyzer y = Make.excepting(Make.with("a. b"), "a");
         due.answer("segmentsWith(2, 0), joined by an exception", y.segmentsWith(2, 0), 2);
         due.answer("segmentsWith(2, 2), joined by an exception", y.segmentsWith(2, 2), 1);
         y.setClass('b', 2);
@@ -838,19 +777,19 @@ public final class PromiseTest {
     // ---- promise 24
 
     private static void looked(String text, String pattern, String want) {
-        same(pattern + " looks in '" + text + "'", looks(ruled(with(text), 0, 0, pattern), 0), want);
+        same(pattern + " looks in '" + text + "'", Make.looks(Make.ruled(Make.with(text), 0, 0, pattern), 0), want);
     }
 
     private static void looksAt() {
-        BoundaryAnalyzer x = with("ab1");
-        same("looksAt without rules", looks(x, 0), "1 1 1");
+        BoundaryAnalyzer x = Make.with("ab1");
+        same("looksAt without rules", Make.looks(x, 0), "1 1 1");
         due.answer("looksAt(-1, 0)", x.looksAt(-1, 0), -2);
         due.answer("looksAt(3, 3)", x.looksAt(3, 3), -2);
         due.answer("looksAt(0, -1)", x.looksAt(0, -1), -1);
         due.answer("looksAt(0, 3)", x.looksAt(0, 3), -1);
         due.answer("looksAt(0, highest)", x.looksAt(0, HIGH), -1);
         due.answer("looksAt(0, lowest)", x.looksAt(0, LOW), -1);
-        due.answer("looksAt of the empty text", fresh().looksAt(0, 0), -1);
+        due.answer("looksAt of the empty text", Make.fresh().looksAt(0, 0), -1);
         looked("ab1", "A", "2 2 1");
         looked("ab1", "A+", "3 2 1");
         looked("ab", "A+", "3 2");
@@ -867,34 +806,34 @@ public final class PromiseTest {
         looked("a11", "A|B", "2 2 2");
         looked("a1 ", "A/.*", "4 1 1");
         looked("ab", "(A|B)?/C", "2 2");
-        BoundaryAnalyzer y = ruled(ruled(with("ab1 "), 0, 0, "A"), 0, 4, "A+B");
-        same("two rules look as far as either", looks(y, 0), "4 3 1 1");
-        same("another kind looks for itself", looks(y, 1), "1 1 1 1");
+        BoundaryAnalyzer y = Make.ruled(Make.ruled(Make.with("ab1 "), 0, 0, "A"), 0, 4, "A+B");
+        same("two rules look as far as either", Make.looks(y, 0), "4 3 1 1");
+        same("another kind looks for itself", Make.looks(y, 1), "1 1 1 1");
     }
 
     private static void looksAtBehindChangedClasses() {
-        BoundaryAnalyzer x = ruled(with("^a"), 0, 0, "KA");
+        BoundaryAnalyzer x = Make.ruled(Make.with("^a"), 0, 0, "KA");
         x.setClass('^', 0);
         x.setClass('~', 0);
         x.setClass('`', 0);
-        same("a class without characters", looks(x, 0), "1 1");
+        same("a class without characters", Make.looks(x, 0), "1 1");
         x.setClass('a', 10);
-        same("a class with other ones", looks(x, 0), "1 2");
+        same("a class with other ones", Make.looks(x, 0), "1 2");
     }
 
     // ---- promise 25
 
     private static void work() {
-        BoundaryAnalyzer x = fresh();
+        BoundaryAnalyzer x = Make.fresh();
         works("new", x, 0, 0, 0);
         due.answer("work(3)", x.work(3), -2);
         due.answer("work(-1)", x.work(-1), -2);
         due.answer("work(lowest)", x.work(LOW), -2);
-        append(x, "ab cd");
+        Make.append(x, "ab cd");
         works("an insertion", x, 1, 1, 1);
-        ruled(x, 1, 0, "A+");
+        Make.ruled(x, 1, 0, "A+");
         works("a rule", x, 1, 3, 1);
-        ruled(x, 1, 0, "A+");
+        Make.ruled(x, 1, 0, "A+");
         works("the same rule", x, 1, 3, 1);
         x.setClass('#', 3);
         works("a class", x, 5, 3, 5);
@@ -902,30 +841,30 @@ public final class PromiseTest {
         works("an edit", x, 1, 1, 1);
         x.setClass('#', 3);
         works("no other class", x, 1, 1, 1);
-        typed(x, "").setRule(2, 2);
+        Make.typed(x, "").setRule(2, 2);
         works("no rule removed", x, 1, 1, 1);
-        typed(x, "(").setRule(2, 2);
+        Make.typed(x, "(").setRule(2, 2);
         works("a faulty rule", x, 1, 1, 1);
         x.insert(0, (char) 200);
         works("a refused edit", x, 1, 1, 1);
-        typed(x, "").setRule(1, 0);
+        Make.typed(x, "").setRule(1, 0);
         works("a rule removed", x, 1, 6, 1);
-        excepting(x, "abc");
+        Make.excepting(x, "abc");
         works("an exception", x, 1, 6, 1);
-        BoundaryAnalyzer y = excepting(with("a. b"), "a");
+        BoundaryAnalyzer y = Make.excepting(Make.with("a. b"), "a");
         y.setClass('#', 3);
         due.answer("segmentCount(2) less what is suppressed", y.segmentCount(2), 2);
         works("suppressed ones are analysed, too", y, 4, 4, 4);
-        BoundaryAnalyzer z = fresh();
+        BoundaryAnalyzer z = Make.fresh();
         z.setClass('a', 1);
         works("a class and no text", z, 0, 0, 0);
     }
 
     private static void workOfEdits() {
-        BoundaryAnalyzer x = ruled(with("ab cd ef"), 1, 0, "A+");
+        BoundaryAnalyzer x = Make.ruled(Make.with("ab cd ef"), 1, 0, "A+");
         x.insert(4, 'x');
         works("an insertion into a word", x, 1, 1, 1);
-        same("an insertion into a word", states(x, 1), "1011001101");
+        same("an insertion into a word", Make.states(x, 1), "1011001101");
         x.insert(2, 'y');
         due.answer("an insertion behind a word that looked there", x.work(1), 1);
         x.insert(2, ' ');
@@ -938,22 +877,22 @@ public final class PromiseTest {
         due.answer("a word is erased", x.work(1), 0);
         x.erase(0, 1);
         due.answer("a blank is erased", x.work(1), 0);
-        same("the text", text(x), "cxd ef");
+        same("the text", Make.text(x), "cxd ef");
         x.erase(3, 1);
         due.answer("two words are joined", x.work(1), 1);
         x.erase(0, 5);
         due.answer("all is erased", x.work(1), 0);
 
-        BoundaryAnalyzer y = ruled(with("aa bb cc"), 1, 0, ".+D");
+        BoundaryAnalyzer y = Make.ruled(Make.with("aa bb cc"), 1, 0, ".+D");
         y.insert(8, 'c');
         due.answer("all looked at the end", y.work(1), 9);
         y.insert(8, '.');
         due.answer("one segment to the dot", y.work(1), 1);
-        same("one segment to the dot", states(y, 1), "10000000011");
+        same("one segment to the dot", Make.states(y, 1), "10000000011");
         y.erase(8, 1);
         due.answer("the dot is erased", y.work(1), 8);
-        BoundaryAnalyzer z = ruled(with("111a1"), 0, 0, "BB/A");
-        same("with a look-ahead", states(z, 0), "110111");
+        BoundaryAnalyzer z = Make.ruled(Make.with("111a1"), 0, 0, "BB/A");
+        same("with a look-ahead", Make.states(z, 0), "110111");
         z.erase(3, 1);
         due.answer("the look-ahead is erased", z.work(0), 2);
         z.insert(3, 'a');
@@ -961,12 +900,12 @@ public final class PromiseTest {
     }
 
     private static void workOfUndoAndRedo() {
-        BoundaryAnalyzer x = ruled(with("ab cd ef"), 1, 0, "A+");
+        BoundaryAnalyzer x = Make.ruled(Make.with("ab cd ef"), 1, 0, "A+");
         x.erase(2, 4);
         works("an erasure", x, 0, 1, 0);
         x.undo();
         works("undo() of an erasure", x, 4, 5, 4);
-        same("undo() of an erasure", states(x, 1), "101101101");
+        same("undo() of an erasure", Make.states(x, 1), "101101101");
         x.redo();
         works("redo() of an erasure", x, 0, 1, 0);
         x.undo();
