@@ -21,7 +21,10 @@ final class Document {
 
     /** The lines of a section: of a promise, or of the description. */
     private String section(int number) {
-        String head = number == DESCRIPTION ? "## Description\n" : "## Promise " + number + ": ";
+        return section(number == DESCRIPTION ? "## Description\n" : "## Promise " + number + ": ");
+    }
+
+    private String section(String head) {
         int from = words.indexOf(head);
         if (from < 0) {
             throw new IllegalStateException("no section " + head);
@@ -29,6 +32,28 @@ final class Document {
         int begin = words.indexOf('\n', from) + 1;
         int end = words.indexOf("\n## ", begin);
         return words.substring(begin, end < 0 ? words.length() : end);
+    }
+
+    /** The members of the class as the document declares them, each without the stop at its end. */
+    List<String> face() {
+        List<String> members = new ArrayList<>();
+        for (String line : section("## The public face\n").split("\n")) {
+            if (line.startsWith("    public ")) {
+                members.add(plain(line.replace(";", "")));
+            }
+        }
+        return members;
+    }
+
+    /** The calls of each example, without the number and the words before them. */
+    List<String> examples() {
+        List<String> examples = new ArrayList<>();
+        for (String line : section(DESCRIPTION).split("\n")) {
+            if (line.matches("\\d\\. .*")) {
+                examples.add(withoutStop(line.substring(line.indexOf(": ") + 2)));
+            }
+        }
+        return examples;
     }
 
     boolean says(int number, String quote) {

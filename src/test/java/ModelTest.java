@@ -10,7 +10,7 @@ public final class ModelTest {
     private final Due due = new Due();
     private final Random random;
     private final String signs;
-    private final String leaves;
+    private final RandomRule rules;
     private final BoundaryAnalyzer x = new BoundaryAnalyzer();
     private final Model model = new Model();
     private final StringBuilder calls = new StringBuilder();
@@ -19,7 +19,7 @@ public final class ModelTest {
     private ModelTest(int run) {
         random = new Random(run);
         signs = TEXTS[random.nextInt(TEXTS.length)];
-        leaves = LEAVES[random.nextInt(LEAVES.length)];
+        rules = new RandomRule(random, LEAVES[random.nextInt(LEAVES.length)]);
         growing = run % 4 == 0;
     }
 
@@ -124,41 +124,11 @@ public final class ModelTest {
         if (form == 0) {
             type("");
         } else if (form == 1) {
-            type(broken(rule()));
+            type(broken(rules.write()));
         } else {
-            type(rule());
+            type(rules.write());
         }
         same("setRule(" + kind + ", " + place + ")", x.setRule(kind, place), model.setRule(kind, place));
-    }
-
-    private String rule() {
-        String all;
-        do {
-            all = alternatives(0) + (random.nextInt(3) == 0 ? "/" + alternatives(0) : "");
-        } while (all.length() > 24);
-        return all;
-    }
-
-    private String alternatives(int depth) {
-        String all = sequence(depth);
-        while (random.nextInt(4) == 0) {
-            all += "|" + sequence(depth);
-        }
-        return all;
-    }
-
-    private String sequence(int depth) {
-        String all = item(depth);
-        while (random.nextInt(3) == 0) {
-            all += item(depth);
-        }
-        return all;
-    }
-
-    private String item(int depth) {
-        String inner = depth < 4 && random.nextInt(3) == 0 ? "(" + alternatives(depth + 1) + ")"
-                : String.valueOf(leaves.charAt(random.nextInt(leaves.length())));
-        return inner + (random.nextBoolean() ? "" : String.valueOf("*+?".charAt(random.nextInt(3))));
     }
 
     private String broken(String rule) {
